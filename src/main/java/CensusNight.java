@@ -1128,11 +1128,15 @@ public final class CensusNight {
 
         /** The first set, as the document orders them, that hides so many more cells from the first one on. */
         private static int choose(Hiding hiding, int first, int hidden, int left) {
+            // With fewest others each of them lies on a round, too: no row or column has one hidden cell alone.
+            if (loneLines(hidden) > left) {
+                return NONE;
+            }
             if (left <= 0) {
                 return hiding.noneFollows(hidden) ? hidden : NONE;
             }
             // Hiding more never makes a cell follow: if all that is left is too little, so is a part of it.
-            if (hiding.loneLines(hidden) > left || !hiding.noneFollows(hidden | ALL << first & ALL)) {
+            if (!hiding.noneFollows(hidden | ALL << first & ALL)) {
                 return NONE;
             }
             for (int cell = first; cell < Table.CELLS; cell++) {
@@ -1146,21 +1150,21 @@ public final class CensusNight {
             return NONE;
         }
 
-        /** Rows (or columns, if they are more) whose one hidden cell is small: each needs another. */
-        private int loneLines(int hidden) {
+        /** How many rows (or columns, if they are more) have one hidden cell, so that each needs another. */
+        private static int loneLines(int hidden) {
             int rows = 0;
             for (int row = 0; row < BLOCKS; row++) {
-                rows += isLone(hidden, FIRST_ROW << row * BANDS) ? 1 : 0;
+                rows += isOneCell(hidden & FIRST_ROW << row * BANDS) ? 1 : 0;
             }
             int columns = 0;
             for (int column = 0; column < BANDS; column++) {
-                columns += isLone(hidden, FIRST_COLUMN << column) ? 1 : 0;
+                columns += isOneCell(hidden & FIRST_COLUMN << column) ? 1 : 0;
             }
             return Math.max(rows, columns);
         }
 
-        private boolean isLone(int hidden, int line) {
-            return (small & line) != 0 && Integer.bitCount(hidden & line) == 1;
+        private static boolean isOneCell(int set) {
+            return set != 0 && (set & set - 1) == 0;
         }
 
         private boolean noneFollows(int hidden) {
@@ -1181,11 +1185,13 @@ public final class CensusNight {
         /** Whether a way of growing and shrinking cells leads from the row to the column. */
         private boolean canShrink(int row, int column, int others) {
             int rows = row;
-            for (int round = 0; round < BLOCKS; round++) {
+            int old = 0;
+            for (int round = 0; round < BLOCKS && rows != old; round++) {
                 int columns = columnsOf(rows & others);
                 if ((columns & column) != 0) {
                     return true;
                 }
+                old = rows;
                 rows |= rowsOf(columns & others & positive);
             }
             return false;
@@ -1193,11 +1199,13 @@ public final class CensusNight {
 
         private boolean canGrow(int row, int column, int others) {
             int columns = column;
-            for (int round = 0; round < BLOCKS; round++) {
+            int old = 0;
+            for (int round = 0; round < BLOCKS && columns != old; round++) {
                 int rows = rowsOf(columns & others & positive);
                 if ((rows & row) != 0) {
                     return true;
                 }
+                old = columns;
                 columns |= columnsOf(rows & others);
             }
             return false;
