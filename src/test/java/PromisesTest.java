@@ -685,6 +685,15 @@ public final class PromisesTest {
         is("no band", x.count(0, 4, true), -1);
         is("no band", x.count(0, -1, true), -1);
         is("none is refused", x.status(11), 0);
+        start(22, "count without filled ones");
+        knocked(0, 5, 6, 30);
+        x.door(1, 0, 0);
+        x.door(0, 0, 0);
+        is("filled", x.fill(), 2);
+        is("with", x.count(1, 0, true), 2);
+        is("without", x.count(1, 0, false), 0);
+        is("with", x.count(0, 0, true), 4);
+        is("without", x.count(0, 0, false), 2);
     }
 
     private void promise23() {
@@ -735,6 +744,12 @@ public final class PromisesTest {
         walksAre(0, 0, 0, 1, -1, -1);
         cutTakesTheLeastGreatest();
         cutNeedsNearOnesWithin();
+        x = new CensusNight();
+        for (int b = 5; b >= 0; b--) {
+            x.door(b, 0, 0);
+        }
+        is("six walks", x.cut(24), 6);
+        walksAre(0, 1, 2, 3, 4, 5);
     }
 
     private void cutTakesTheLeastGreatest() {
@@ -813,6 +828,8 @@ public final class PromisesTest {
         refused("fewer elements", x.second(0, 2), -5, 0);
         refused("below 0", x.second(0, 3), -6, 0);
         refused("above 99", x.second(0, 4), -6, 1);
+        rowOf(3, 0, -1, 1);
+        refused("below 0", x.second(0, 3), -6, 2);
         is("the older one stays", x.right(true), 3);
         is("a block without doors", x.second(5, 2), 0);
         is("two blocks", x.status(9), 2);
@@ -867,6 +884,9 @@ public final class PromisesTest {
     }
 
     private void promise28() {
+        start(28, "heap of the first door");
+        knocked(0, 40);
+        is("all of them", x.heap(), 500);
         start(28, "heap");
         is("none", x.heap(), 100);
         int a = knocked(0, 22, 63, 20, 65, -1);
@@ -905,8 +925,15 @@ public final class PromisesTest {
         x.fill();
         is("none hidden", x.table(), 0);
         is("sum", x.told(6, 4), 0);
+        start(29, "filled ones count");
+        knocked(0, 5, 6);
+        x.door(0, 0, 0);
+        x.fill();
+        is("4 in the cell", x.table(), 0);
+        is("told", x.told(0, 0), 4);
         smallOnesThatGuardEachOther();
         zerosMayBeHidden();
+        fourOthers();
         moreThanFour();
         tableIsMadeAsThingsAre();
     }
@@ -926,6 +953,19 @@ public final class PromisesTest {
         is("three others", x.table(), 4);
         // rows of zeros are of no use; but one 0, at (2, 0), may grow
         hiddenAre(8, 10, 12, 14);
+    }
+
+    private void fourOthers() {
+        start(29, "four others");
+        lawOf("k3p2c2");
+        tableRow(0, 2, 2, 2, 2);
+        tableRow(1, 1, 2, 2, 2);
+        tableRow(2, 2, 1, 2, 2);
+        tableRow(3, 2, 2, 1, 2);
+        tableRow(4, 2, 2, 2, 1);
+        x.fill();
+        is("four others", x.table(), 8);
+        hiddenAre(4, 5, 8, 9, 14, 15, 18, 19);
     }
 
     private void zerosMayBeHidden() {
@@ -1025,6 +1065,13 @@ public final class PromisesTest {
     }
 
     private void promise32() {
+        start(32, "status of one door");
+        x.door(0, 0, 0);
+        is("no returns", x.status(1), 0);
+        is("to be asked", x.status(8), 1);
+        x.paper(0);
+        is("one return", x.status(1), 1);
+        is("none to be asked", x.status(8), 0);
         start(32, "status");
         lawOf("k3p1c4");
         int a = knocked(0, 5, 6, 7);
