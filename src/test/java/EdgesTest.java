@@ -1,0 +1,14 @@
+import java.nio.file.Files;
+import java.nio.file.Path;
+
+/** Each sentence of the document that names a boundary case, by itself: see Edges and Script. */
+public final class EdgesTest {
+    public static void main(String[] args) throws Exception {
+        Edges edges = new Edges(Files.readString(Path.of("../shared/DOC.md")));
+        new ShelfEdges(edges).play();
+        new FieldEdges(edges).play();
+        new CountEdges(edges).play();
+        new TableEdges(edges).play();
+        edges.end();
+    }
+}
