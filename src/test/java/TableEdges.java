@@ -409,6 +409,27 @@ final class TableEdges {
 
     private void couldRounds() {
         edges.edge(31, COULD, """
+            cells 0: 2 2 2 0
+            cells 1: 2 2 2 0
+            cells 4: 2 2 0 0
+            fill()
+            table() = 8
+            could({0 1 4}, {0 1}, false) = 0
+            could({0 1 4}, {0 1}, true) = 6 6 6 6 4 4
+            could({0 1}, 2, {false true}) = 0 4 0 4
+            could(4, 2, {false true}) = 0
+            """);
+        edges.edge(31, COULD, """
+            law k3p2c5
+            cells 0: 1 0 0 5
+            cells 2: 2 0 0 5
+            cells 3: 3 0 0 2
+            fill()
+            table() = 6
+            could({0 2 3}, 0, {false true}) = 0 6 0 6 0 5
+            could({0 2 3}, 3, {false true}) = 0 6 1 7 0 5
+            """);
+        edges.edge(31, COULD, """
             law k3p2c2
             cells 0: 1 1 1 1
             cells 1: 1 1 1 1
