@@ -154,7 +154,7 @@ final class CountEdges {
             walk({0..5}) = -1
             cut({-1 25 MIN MAX}) ! -6
             """);
-        edges.edge(24, "there is none (a BLOCK has more WORK)", """
+        edges.edge(24, "-6 the limit, there is none (a BLOCK has more WORK).", """
             24 times door(2, 0, 0)
             cut(24) = 1
             cut({0 22 23}) ! -6
@@ -385,7 +385,7 @@ final class CountEdges {
             set(0, 23, 0)
             second(5, 0) = 2277
             """);
-        edges.edge(26, "The second count of a BLOCK (in place of an older one)", """
+        edges.edge(26, "The second count of a BLOCK (in place of an older one) by the ROW in SHELF s", """
             status(9) = 0
             knocked 0 0: 5 6
             row 0 2: 2

@@ -81,6 +81,17 @@ final class FieldEdges {
     }
 
     private void lawAsInts() {
+        edges.edge(11, "THE LAW becomes the ROW in SHELF s: 1.", """
+            row 0 0: 'k' '4' 'p' '5' 'c' '6'
+            row 7 2: 'k' '7' 'p' '8' 'c' '9'
+            law(7) = 1
+            status({18..20}) = 7 8 9
+            law(0) = 1
+            status({18..20}) = 4 5 6
+            set(0, 1, '9')
+            row(7, 0, 0)
+            status({18..20}) = 4 5 6
+            """);
         edges.edge(11, "elements as ints: of longs the lowest 32 bits", """
             row 0 3: 2^32+'k' LMIN+'1' 2^63+'p' 2^40+'9' 2^62+'c' -4294967296+'4'
             law(0) = 1
@@ -341,6 +352,16 @@ final class FieldEdges {
     }
 
     private void paper() {
+        edges.edge(14, "A PAPER comes from a DOOR: how many HEADS it tells.", """
+            home 0 0 0: 40 41 9
+            home 0 0 0: 40 -1 9
+            door(0, 0, 0)
+            paper({0..2}) = 3 1 0
+            about({0..2}, 0) = 1
+            about({0..2}, 2) = 3 1 0
+            age(0, {0..3}) = 40 41 9 -1
+            status({1 3}) = 3 4
+            """);
         edges.edge(14, "at the first one without AGE it is BROKEN there (the HEADS ahead are kept); else it is WHOLE", """
             home 0 0 0: -1
             home 0 0 0: 0 111
@@ -466,7 +487,7 @@ final class FieldEdges {
     }
 
     private void knockRefusals() {
-        edges.edge(15, "A KNOCK at a DOOR at an HOUR 0 to 9", """
+        edges.edge(15, "A KNOCK at a DOOR at an HOUR 0 to 9: 1 it was answered, 0 not.", """
             door(0, 0, 1023)
             door(0, 0, 1023)
             knock(0, {-1 10 31 32 33 64 MIN MAX}) ! -6
@@ -600,6 +621,18 @@ final class FieldEdges {
     }
 
     private void twice() {
+        edges.edge(17, "HEAD i of a DOOR's RETURN and HEAD k of another one's are one person: the DOOR where it is STRUCK.", """
+            knocked 0 0: 1 20 70
+            knocked 0 0: 2 21 71
+            knocked 0 0: 3 22 72
+            twice(0, 1, 2, 2) = 2
+            count(0, {0..3}, true) = 3 3 2 0
+            twice(2, 1, 1, 0) = 2
+            count(0, {0..3}, true) = 3 2 2 0
+            twice(1, 0, 0, 0) = 1
+            count(0, {0..3}, true) = 2 2 2 0
+            about({0..2}, 3) = 0 1 2
+            """);
         edges.edge(17, "Of two HEADS told to be one person, that at the DOOR of the greater number is STRUCK: it is counted nowhere.", """
             knocked 0 0: 25 26
             knocked 1 0: 25 26

@@ -10,69 +10,65 @@ import java.util.TreeSet;
 import java.util.regex.Matcher;
 import java.util.regex.Pattern;
 
-/** The document's face, and those rules of LANGUAGE.md that a glance at the class can tell. */
+/** The document's face, and the rules of LANGUAGE.md: what the compiled class shows, and what its source does. */
 public final class LanguageTest {
-    private static final String[] FACE = {
-        "int door(int,int,int)", "int near(int,int)", "int row(int,int,int)", "int set(int,int,long)",
-        "int copy(int,int,int,int,int)", "long element(int,int)", "int show(int,int)", "int holds(int)",
-        "int blockIn(int)", "int law(int)", "int fault()", "int truth(int,int)", "int paper(int)",
-        "int knock(int,int)", "int proxy(int,int)", "int twice(int,int,int,int)", "int fill()", "int from(int)",
-        "int about(int,int)", "int age(int,int)", "int count(int,int,boolean)", "int bestHour(int)", "int cut(int)",
-        "int walk(int)", "int second(int,int)", "long right(boolean)", "int heap()", "int table()",
-        "int told(int,int)", "int could(int,int,boolean)", "int status(int)"};
-    private static final String[] BARRED = {
-        "\\b(throw|throws|try|catch|finally|synchronized|assert|protected|native|volatile|transient)\\b",
-        "->", "::", "\\w+Exact\\s*\\(", "\\bvar\\b", "@", "\\bpackage\\b", "\\bThread\\b", "\\bSystem\\.(?!arraycopy\\b)",
-        "\\bObject\\b", "\\bmain\\s*\\(", "\\bRandom\\b", "\\bhashCode\\b", "\\btoString\\b", "import (?!java\\.util\\.Arrays;)"};
+    private static final String SOURCE = "src/main/java/CensusNight.java";
+    private static final int MOST_CLASSES = 12;
+    private static final int MOST_FIELDS = 20;
 
     private final Due due = new Due();
 
     public static void main(String[] args) throws Exception {
         LanguageTest test = new LanguageTest();
-        test.face();
+        test.face(Files.readString(Path.of("../shared/DOC.md")));
+        test.names();
         test.nested();
-        test.source(Files.readString(Path.of("src/main/java/CensusNight.java")));
+        test.signs(Files.readString(Path.of(SOURCE)));
+        new LanguageScan(test.due, Path.of(SOURCE)).play();
         test.due.end();
     }
 
-    private void face() {
-        due.part("face");
-        Class<?> type = CensusNight.class;
-        due.yes("public and final", Modifier.isPublic(type.getModifiers()) && Modifier.isFinal(type.getModifiers()));
-        Set<String> open = new TreeSet<>();
-        Set<String> openNames = new TreeSet<>();
-        for (Method method : type.getDeclaredMethods()) {
-            if (!Modifier.isPrivate(method.getModifiers())) {
-                open.add(signature(method));
-                openNames.add(method.getName());
-                due.yes("public: " + method, method.getModifiers() == Modifier.PUBLIC);
-            }
+    /** The members as the document writes them out, without the parameters' names. */
+    private static Set<String> documented(String document) {
+        Set<String> face = new TreeSet<>();
+        int from = document.indexOf("```java");
+        String block = document.substring(from, document.indexOf("```\n", from + 1));
+        Matcher line = Pattern.compile("    public ([^;]*);").matcher(block);
+        while (line.find()) {
+            face.add(line.group(1).replaceAll("(int|long|boolean) \\w+([,)])", "$1$2"));
         }
-        Set<String> want = new TreeSet<>(Arrays.asList(FACE));
-        due.yes("the methods are " + open + ", due are " + want, open.equals(want));
-        for (Field field : type.getDeclaredFields()) {
-            boolean none = field.getName().equals("NONE");
-            due.yes("private: " + field, none || Modifier.isPrivate(field.getModifiers()));
-        }
-        Constructor<?>[] makers = type.getDeclaredConstructors();
-        due.eq("constructors", makers.length, 1);
-        due.yes("public constructor", makers[0].getModifiers() == Modifier.PUBLIC && makers[0].getParameterCount() == 0);
-        for (Class<?> each : allClasses()) {
-            for (Method method : each.getDeclaredMethods()) {
-                boolean own = each == type && Modifier.isPublic(method.getModifiers());
-                due.yes("name of the face: " + method, own || !openNames.contains(method.getName()));
-                due.yes("seven parameters: " + method, method.getParameterCount() <= 7);
-            }
-        }
+        return face;
     }
 
-    private static String signature(Method method) {
-        StringBuilder text = new StringBuilder();
-        text.append(method.getReturnType()).append(' ').append(method.getName()).append('(');
-        for (Class<?> type : method.getParameterTypes()) {
-            text.append(text.charAt(text.length() - 1) == '(' ? "" : ",").append(type);
+    private void face(String document) {
+        due.part("rule 1, the face");
+        Class<?> type = CensusNight.class;
+        due.yes("public and final", type.getModifiers() == (Modifier.PUBLIC | Modifier.FINAL));
+        due.yes("no package", type.getPackageName().isEmpty());
+        Set<String> open = new TreeSet<>();
+        for (Method method : type.getDeclaredMethods()) {
+            if (!Modifier.isPrivate(method.getModifiers())) {
+                due.yes("public: " + method, method.getModifiers() == Modifier.PUBLIC);
+                open.add(method.getReturnType() + " " + method.getName() + types(method.getParameterTypes()));
+            }
         }
-        return text.append(')').toString();
+        for (Field field : type.getDeclaredFields()) {
+            if (!Modifier.isPrivate(field.getModifiers())) {
+                open.add(Modifier.toString(field.getModifiers()).replace("public ", "") + " " + field.getType() + " "
+                        + field.getName() + " = " + CensusNight.NONE);
+            }
+        }
+        for (Constructor<?> maker : type.getDeclaredConstructors()) {
+            due.yes("public: " + maker, maker.getModifiers() == Modifier.PUBLIC);
+            open.add(maker.getName() + types(maker.getParameterTypes()));
+        }
+        Set<String> want = documented(document);
+        due.eq("members of the document's face", want.size(), 33);
+        due.yes("the face is " + open + ", due is " + want, open.equals(want));
+    }
+
+    private static String types(Class<?>[] types) {
+        return Arrays.toString(types).replace('[', '(').replace(']', ')');
     }
 
     private static Set<Class<?>> allClasses() {
@@ -82,42 +78,41 @@ public final class LanguageTest {
         return all;
     }
 
-    private void nested() {
-        due.part("classes");
-        due.yes("twelve classes at most", allClasses().size() <= 12);
+    private void names() {
+        due.part("rule 1, names");
+        Set<String> open = new TreeSet<>();
+        for (Method method : CensusNight.class.getMethods()) {
+            open.add(method.getName());
+        }
         for (Class<?> each : allClasses()) {
-            if (each != CensusNight.class) {
-                due.yes("static: " + each, Modifier.isStatic(each.getModifiers()));
-                due.yes("not public: " + each, !Modifier.isPublic(each.getModifiers()));
-                due.eq("deeper classes of " + each, each.getDeclaredClasses().length, 0);
+            for (Method method : each.getDeclaredMethods()) {
+                boolean own = each == CensusNight.class && Modifier.isPublic(method.getModifiers());
+                due.yes("a name of the face: " + method, own || !open.contains(method.getName()));
             }
-            int fields = 0;
-            for (Field field : each.getDeclaredFields()) {
-                boolean fixed = Modifier.isStatic(field.getModifiers());
-                fields += fixed ? 0 : 1;
-                due.yes("final: " + field, !fixed || Modifier.isFinal(field.getModifiers()));
-            }
-            due.yes("twenty fields at most: " + each, fields <= 20);
         }
     }
 
-    private void source(String text) {
-        due.part("source");
-        String code = text.replaceAll("(?s)/\\*.*?\\*/", "").replaceAll("//[^\n]*", "").replaceAll("\"[^\"]*\"", "\"\"");
-        for (String barred : BARRED) {
-            Matcher found = Pattern.compile(barred).matcher(code);
-            due.yes("barred: " + barred, !found.find());
+    private void nested() {
+        due.part("rules 2 and 11, classes");
+        due.yes("classes: " + allClasses().size(), allClasses().size() <= MOST_CLASSES);
+        for (Class<?> each : allClasses()) {
+            int fields = 0;
+            for (Field field : each.getDeclaredFields()) {
+                fields += Modifier.isStatic(field.getModifiers()) ? 0 : 1;
+            }
+            due.yes("fields of " + each + ": " + fields, fields <= MOST_FIELDS);
+            if (each != CensusNight.class) {
+                due.yes("static: " + each, Modifier.isStatic(each.getModifiers()));
+                due.yes("not open: " + each, (each.getModifiers() & (Modifier.PUBLIC | Modifier.PROTECTED)) == 0);
+                due.eq("deeper classes of " + each, each.getDeclaredClasses().length, 0);
+            }
         }
-        int begun = -1;
+    }
+
+    private void signs(String text) {
+        due.part("rule 4, signs");
         String[] lines = text.split("\n");
         for (int n = 0; n < lines.length; n++) {
-            if (lines[n].matches("(    |        )\\S.*\\) \\{")) {
-                begun = n;
-            }
-            if (begun >= 0 && lines[n].matches("(    |        )\\}")) {
-                due.yes("sixty lines at most: " + lines[begun], n - begun < 60);
-                begun = -1;
-            }
             due.yes("signs 1 to 127: line " + (n + 1), lines[n].chars().allMatch(c -> c > 0 && c < 128));
         }
     }

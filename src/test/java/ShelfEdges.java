@@ -98,6 +98,19 @@ final class ShelfEdges {
     }
 
     private void door() {
+        edges.edge(2, "A new DOOR: its number.", """
+            door(3, 2, 4) = 0
+            status(0) = 1
+            door(3, 2, 4) = 1
+            door(3, 4, 4) ! -6
+            door(3, 2, 4) = 2
+            status(0) = 3
+            about({0..3}, {0 2 4}) = 0 0 0 0 0 0 0 0 0 -1 -1 -1
+            show(0, 2)
+            blockIn(0) = 3
+            knock({0..2}, 2) = 1
+            bestHour(2) = 2
+            """);
         edges.edge(2, "BLOCKS are 0 to 5.", """
             door(0, 0, 0) = 0
             door(5, 0, 0) = 1
@@ -301,7 +314,7 @@ final class ShelfEdges {
     }
 
     private void copy() {
-        edges.edge(6, "(as they were ahead)", """
+        edges.edge(6, "come to elements j, j + 1, .. of that in q (as they were ahead): 1.", """
             row 0 2: 1 2 3 4 5
             copy(0, 0, 0, 1, 4) = 1
             element(0, {0..4}) = 1 1 2 3 4
@@ -399,7 +412,7 @@ final class ShelfEdges {
             copy({0..3}, 7, 0, 0, 1) ! -3
             copy(7, {0..3}, 0, 0, 1) ! -3
             """);
-        edges.edge(6, "-3 either", """
+        edges.edge(6, "-1; -2 also of two SORTS (when both hold something); -3 either; -4 n;", """
             row(0, 2, 1)
             copy(0, 1, 0, 0, 1) ! -3
             copy(1, 0, 0, 0, 1) ! -3
@@ -439,7 +452,7 @@ final class ShelfEdges {
     }
 
     private void element() {
-        edges.edge(7, "0 if there is none (nothing is refused)", """
+        edges.edge(7, "Element i of the ROW; 0 if there is none (nothing is refused).", """
             row 0 3: LMIN LMAX
             row 7 0: -128
             row(1, 2, 0)
@@ -454,7 +467,7 @@ final class ShelfEdges {
             element({-1 8 MIN MAX}, 0) = 0
             status({11..17}) = 0
             """);
-        edges.edge(7, "0 if there is none (nothing is refused)", """
+        edges.edge(7, "Element i of the ROW; 0 if there is none (nothing is refused).", """
             row 0 2: 1 2 3
             row(0, 2, 1)
             element(0, {0 1 2}) = 0
@@ -508,7 +521,7 @@ final class ShelfEdges {
     }
 
     private void holds() {
-        edges.edge(9, "NONE NOTHING, or no such SHELF; the number of a DOOR; 100 and the SORT of a ROW", """
+        edges.edge(9, "What SHELF s holds: NONE NOTHING, or no such SHELF; the number of a DOOR; 100 and the SORT of a ROW.", """
             24 times door(0, 0, 0)
             row(0, 0, 0)
             row(1, 1, 30)

@@ -9,7 +9,8 @@ final class TableEdges {
             "Of several such sets that whose first cell (4 times the row, and the column) is least, then the second, "
             + "and so on.";
     private static final String TOLD =
-            "(row 6, or column 4: the sum): its number; -2 HIDDEN; NONE: no such cell, no TABLE";
+            "What THE TABLE tells of a cell (row 6, or column 4: the sum): its number; -2 HIDDEN; NONE: no such cell, no "
+            + "TABLE.";
     private static final String COULD =
             "The least number (most false), or the greatest one, that a cell of THE TABLE could have by all that is told";
 
