@@ -328,6 +328,23 @@ final class TableEdges {
             could(1, 1, {false true}) = 2
             """);
         edges.edge(29, "THE TABLE is made as things are: how many cells are HIDDEN.", """
+            law k3p2c2
+            knocked 0 0: 10
+            knocked 2 0: 70 70
+            knocked 1 0: 30 30
+            fill()
+            table() = 4
+            told({0 1}, {0 1}) = -2
+            told({0 2}, 2) = 0 2
+            twice(1, 0, 2, {0 1}) = 2
+            told(1, {0..4}) = -2 -2 0 0 2
+            table() = 4
+            told({0 2}, {0 2}) = -2
+            told({0 2}, 1) = 0
+            told(1, {0..4}) = 0
+            could(0, 0, {false true}) = 0 1
+            """);
+        edges.edge(29, "THE TABLE is made as things are: how many cells are HIDDEN.", """
             cells 0: 2 2 0 0
             cells 1: 2 2 0 0
             fill()

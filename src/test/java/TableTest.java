@@ -20,6 +20,11 @@ public final class TableTest {
             test.check(someTable(random, 3), 3);
             test.check(someTable(random, 1 + random.nextInt(9)), 2 + random.nextInt(8));
         }
+        for (int n = 0; n < 250; n++) {
+            test.due.part("table again " + n);
+            test.checkAgain(someTable(random, 2), 2, random);
+            test.checkAgain(someTable(random, 3), 3, random);
+        }
         for (int n = 0; n < 300; n++) {
             test.due.part("small table " + n);
             test.checkByAllTables(someTable(random, 2), 3);
@@ -73,9 +78,34 @@ public final class TableTest {
 
     private void check(int[][] cells, int least) {
         CensusNight census = censusOf(cells, least);
-        if (census == null) {
+        if (census != null) {
+            compare(census, cells, least);
+        }
+    }
+
+    /** A table in place of an older one, after heads were struck. */
+    private void checkAgain(int[][] cells, int least, Random random) {
+        CensusNight census = censusOf(cells, least);
+        if (census == null || census.status(0) < 2) {
             return;
         }
+        for (int again = 0; again < 2; again++) {
+            census.table();
+            for (int n = 0; n < 8; n++) {
+                int one = random.nextInt(census.status(0));
+                int another = random.nextInt(census.status(0));
+                census.twice(one, random.nextInt(1 + census.about(one, 2)), another,
+                        random.nextInt(1 + census.about(another, 2)));
+            }
+        }
+        int[][] left = new int[6][4];
+        for (int cell = 0; cell < 24; cell++) {
+            left[cell / 4][cell % 4] = census.count(cell / 4, cell % 4, true);
+        }
+        compare(census, left, least);
+    }
+
+    private void compare(CensusNight census, int[][] cells, int least) {
         Set<Integer> hidden = PlainTables.hide(cells, least);
         String name = Arrays.deepToString(cells) + " by " + least;
         due.eq("table() of " + name, census.table(), hidden == null ? -6 : hidden.size());
